@@ -14,6 +14,7 @@ public final class ReadTest {
         eventsMayFindNoRoom();
         staticsMayFindNoRoom();
         laterClassesMayFindRoom();
+        theLastByteHasRoom();
         restartedIsCleared();
         wrongWritesAreFaults();
         otherFunctionsAreUnknown();
@@ -226,6 +227,39 @@ public final class ReadTest {
         answer = m.ask(0xC1, 1, 60, 2, 6, 60, 3, 6, 60, 4, 6, 60, 3, 6);
         Expect.due("248 bytes again", answer.length, 248);
         Expect.due("both have some left", answer[2], 0x8C);
+    }
+
+    private static void dueFull(String what, Master m, int left, int... objects) {
+        int[] answer = m.ask(Master.join(Master.bytes(0xC1, 1), objects));
+        Expect.due(what + ": bytes", answer.length, 249);
+        Expect.due(what + ": classes with some left", answer[2], 0x80 | left);
+    }
+
+    private static void changeEight(Master m, int times) {
+        for (int i = 0; i < times; i++) {
+            m.station.binary(8, i % 2 == 0);
+        }
+    }
+
+    /** 4, 164 for class 1 and 21 for the binaries leave 60 bytes, whatever stands first. */
+    private static void theLastByteHasRoom() {
+        dueFull("binaries", withTwoClasses(40, 14), 0, 60, 2, 6, 60, 3, 6, 1, 2, 6);
+        dueFull("an analog event", withTwoClasses(40, 14), 0, 1, 2, 6, 60, 2, 6, 60, 3, 6);
+        dueFull("an analog event too many", withTwoClasses(40, 15), 4, 1, 2, 6, 60, 2, 6, 60, 3, 6);
+        Master m = withTwoClasses(40, 0);
+        changeEight(m, 28);
+        dueFull("a binary event", m, 0, 1, 2, 6, 60, 2, 6, 60, 3, 6);
+        m = withTwoClasses(40, 0);
+        changeEight(m, 29);
+        dueFull("a binary event too many", m, 4, 1, 2, 6, 60, 2, 6, 60, 3, 6);
+        m = withTwoClasses(40, 0);
+        changeEight(m, 25);
+        m.station.binary(7, true);
+        dueFull("a head and a binary event", m, 0, 1, 2, 6, 60, 2, 6, 60, 3, 6, 60, 4, 6);
+        m = withTwoClasses(40, 12);
+        m.station.sort(true, 6, 3);
+        m.station.analog(6, 1);
+        dueFull("a head and an analog event", m, 0, 1, 2, 6, 60, 2, 6, 60, 3, 6, 60, 4, 6);
     }
 
     private static void restartedIsCleared() {

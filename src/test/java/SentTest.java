@@ -28,7 +28,7 @@ public final class SentTest {
 
     /** Forty whole reads, each of 99 bytes. */
     private static Master withForty() {
-        Master m = Master.of(3, 3);
+        Master m = Master.of(9, 3);
         m.station.sort(false, 0, 1);
         m.station.binary(0, true);
         for (int i = 0; i < 40; i++) {
@@ -51,6 +51,14 @@ public final class SentTest {
         m.feed(Master.frame(0xC9));
         Expect.due("but for the last one", m.station.count(0), 3997);
         Expect.due("all go", m.station.take(), 3997);
+        m = withForty();
+        for (int i = 0; i < 8; i++) {
+            m.station.binary(0, i % 2 == 1);
+        }
+        m.send(0xC9, 1, 60, 2, 6);
+        Expect.due("4001 bytes do not fit", m.station.count(0), 3960);
+        m.send(0xCA, 1, 1, 2, 6);
+        Expect.due("4000 do", m.station.count(0), 4000);
         m = withForty();
         for (int i = 0; i < 4; i++) {
             m.feed(Master.frame(0xC9));
