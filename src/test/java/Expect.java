@@ -49,6 +49,19 @@ final class Expect {
         dueThrows(call, IllegalArgumentException.class, run);
     }
 
+    /** Runs the test of one sentence of the document, and tells the sentence if it does not hold. */
+    static void holds(String sentence, Call test) {
+        int before = wrong;
+        try {
+            test.run();
+        } catch (RuntimeException e) {
+            report("the test threw " + e);
+        }
+        if (wrong != before) {
+            System.out.println("does not hold: " + sentence);
+        }
+    }
+
     static void end() {
         if (wrong != 0) {
             System.out.println(wrong + " answers are not as due");

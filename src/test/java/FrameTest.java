@@ -15,13 +15,6 @@ public final class FrameTest {
         Expect.end();
     }
 
-    private static void dueFrames(Master m, int good, int bad, int foreign, int waiting) {
-        Expect.due("good frames", m.station.count(1), good);
-        Expect.due("bad frames", m.station.count(2), bad);
-        Expect.due("foreign frames", m.station.count(3), foreign);
-        Expect.due("bytes that wait", m.station.count(6), waiting);
-    }
-
     private static void bytesComeHighestFirst() {
         OutStation x = new OutStation(4, 3, 3, 3);
         Expect.due("a reset", x.feed(0x056405C0, 0x04000300, 0xF956FFFF, -1, -1, 10), 1);
@@ -49,7 +42,7 @@ public final class FrameTest {
             int[] frames = Master.join(STATUS, Master.frame(0xC4, Master.ramp(0, 40)), STATUS);
             Expect.due("good ones in pieces of " + size, m.feedBy(size, frames), 3);
             Expect.due("the answers", m.take(), Master.join(Master.reply(11), Master.reply(11)));
-            dueFrames(m, 3, 0, 0, 0);
+            m.dueFrames(3, 0, 0, 0);
         }
         Master m = Master.of(3, 3);
         for (int i = 0; i < 9; i++) {
@@ -57,27 +50,27 @@ public final class FrameTest {
             Expect.due("it waits", m.station.count(6), i + 1);
         }
         Expect.due("whole now", m.feed(STATUS[9]), 1);
-        dueFrames(m, 1, 0, 0, 0);
+        m.dueFrames(1, 0, 0, 0);
     }
 
     private static void rubbishGoes() {
         Master m = Master.of(3, 3);
         m.feed(0x77);
-        dueFrames(m, 0, 0, 0, 1);
+        m.dueFrames(0, 0, 0, 1);
         m.feed(0x78, 0x79);
-        dueFrames(m, 0, 0, 0, 1);
+        m.dueFrames(0, 0, 0, 1);
         m.feed(0x05);
-        dueFrames(m, 0, 0, 0, 1);
+        m.dueFrames(0, 0, 0, 1);
         m.feed(0x05);
-        dueFrames(m, 0, 0, 0, 1);
+        m.dueFrames(0, 0, 0, 1);
         m.feed(0x64);
-        dueFrames(m, 0, 0, 0, 2);
+        m.dueFrames(0, 0, 0, 2);
         m.feed(0x05, 0x64, 0x05, 0x64, 0x05, 0x64, 0x05);
-        dueFrames(m, 0, 0, 0, 9);
+        m.dueFrames(0, 0, 0, 9);
         Expect.due("the tenth byte shows that the first one is rubbish", m.feed(0x99), 0);
-        dueFrames(m, 0, 0, 0, 8);
+        m.dueFrames(0, 0, 0, 8);
         Expect.due("a good one behind rubbish", m.feed(Master.join(Master.ramp(90, 30), STATUS)), 1);
-        dueFrames(m, 1, 0, 0, 0);
+        m.dueFrames(1, 0, 0, 0);
     }
 
     private static void headsWithFaultsGo() {
@@ -88,7 +81,7 @@ public final class FrameTest {
                 faulty[i] ^= 1 << bit;
                 Expect.due("a head with a fault at " + i, m.feed(faulty), 0);
                 Expect.due("and a good one behind it", m.feed(STATUS), 1);
-                dueFrames(m, 1, 0, 0, 0);
+                m.dueFrames(1, 0, 0, 0);
             }
         }
         for (int length = 0; length < 5; length++) {
@@ -98,12 +91,12 @@ public final class FrameTest {
             shortHead[8] = check & 0xFF;
             shortHead[9] = check >> 8;
             Expect.due("a length of " + length, m.feed(Master.join(shortHead, STATUS)), 1);
-            dueFrames(m, 1, 0, 0, 0);
+            m.dueFrames(1, 0, 0, 0);
         }
         Master m = Master.of(3, 3);
         int[] inside = Master.join(Master.bytes(0x05, 0x64, 0x06), STATUS);
         Expect.due("a good one inside a wrong head", m.feed(inside), 1);
-        dueFrames(m, 1, 0, 0, 0);
+        m.dueFrames(1, 0, 0, 0);
     }
 
     private static void dataWithFaultsIsBad() {
@@ -113,22 +106,22 @@ public final class FrameTest {
             int[] faulty = frame.clone();
             faulty[i] ^= 0x10;
             Expect.due("data with a fault at " + i, m.feed(faulty), 0);
-            dueFrames(m, 0, 1, 0, 0);
+            m.dueFrames(0, 1, 0, 0);
             Expect.due("and a good one behind it", m.feed(STATUS), 1);
         }
         Master m = Master.of(3, 3);
         int[] hidden = Master.frame(0xC4, STATUS);
         hidden[hidden.length - 1] ^= 1;
         Expect.due("a frame inside a bad one goes with it", m.feed(hidden), 0);
-        dueFrames(m, 0, 1, 0, 0);
+        m.dueFrames(0, 1, 0, 0);
         int[] both = Master.frameOf(0xC4, 9, 9, 1, 2, 3);
         both[10] ^= 1;
         m.feed(both);
-        dueFrames(m, 0, 2, 0, 0);
+        m.dueFrames(0, 2, 0, 0);
         int[] reset = Master.frame(0xC0, 7, 7, 7);
         reset[12] ^= 1;
         m.feed(reset);
-        dueFrames(m, 0, 3, 0, 0);
+        m.dueFrames(0, 3, 0, 0);
         Expect.due("no answers to bad ones", m.station.count(0), 0);
     }
 
@@ -139,7 +132,7 @@ public final class FrameTest {
             Master.frame(0x89), Master.frame(0x49), Master.frame(0x09), Master.frame(0x44, 1, 2, 3)};
         for (int i = 0; i < frames.length; i++) {
             Expect.due("a foreign frame", m.feed(frames[i]), 0);
-            dueFrames(m, 0, 0, i + 1, 0);
+            m.dueFrames(0, 0, i + 1, 0);
         }
         Expect.due("no answers to foreign ones", m.station.count(0), 0);
         Expect.due("bits 5 and 4 are free", m.feed(Master.frame(0xF9)), 1);
@@ -155,10 +148,10 @@ public final class FrameTest {
             for (int i = 0; i < frame.length - 1; i++) {
                 m.feed(frame[i]);
             }
-            dueFrames(m, 0, 0, 0, frame.length - 1);
+            m.dueFrames(0, 0, 0, frame.length - 1);
             int[] rest = Master.join(Master.bytes(frame[frame.length - 1]), Master.join(STATUS, STATUS));
             Expect.due("the last byte and what fits behind", m.feedBy(20, rest), 3);
-            dueFrames(m, 3, 0, 0, 0);
+            m.dueFrames(3, 0, 0, 0);
         }
     }
 
@@ -166,6 +159,6 @@ public final class FrameTest {
         Master m = Master.of(3, 3);
         Expect.due("two in one call", m.feed(Master.join(STATUS, STATUS)), 2);
         Expect.due("a foreign and a good one", m.feed(Master.join(Master.frame(0x89), STATUS)), 1);
-        dueFrames(m, 3, 0, 1, 0);
+        m.dueFrames(3, 0, 1, 0);
     }
 }

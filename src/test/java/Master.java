@@ -125,6 +125,25 @@ final class Master {
         return list;
     }
 
+    /** How many frames of each kind there were, and how many bytes wait. */
+    void dueFrames(int good, int bad, int foreign, int waiting) {
+        countCalls(4);
+        Expect.due("good frames", station.count(1), good);
+        Expect.due("bad frames", station.count(2), bad);
+        Expect.due("foreign frames", station.count(3), foreign);
+        Expect.due("bytes that wait", station.count(6), waiting);
+    }
+
+    /** Takes one segment in an unconfirmed frame: its first byte, and what it adds. */
+    void segment(int head, int... rest) {
+        Expect.due("good frames with a segment", feed(frame(0xC4, join(bytes(head), rest))), 1);
+    }
+
+    void dueRequests(String what, int want) {
+        countCalls(1);
+        Expect.due(what, station.count(4), want);
+    }
+
     /** Sends a fragment in one unconfirmed frame. */
     void send(int... fragment) {
         segment = segment + 1 & 0x3F;
