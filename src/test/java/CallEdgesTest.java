@@ -23,6 +23,7 @@ public final class CallEdgesTest {
         Expect.holds("IllegalArgumentException: n is not 0 .. 300.", CallEdgesTest::threeHundredBytesAreChecked);
         Expect.holds("IndexOutOfBoundsException: there is no such what.", CallEdgesTest::thirteenCounts);
         Expect.holds("4 requests (repeated ones, too)", CallEdgesTest::repeatedRequestsCount);
+        Expect.holds("An object is used for at most 512 calls", CallEdgesTest::fullObjectsGoOn);
         Expect.holds("A call that throws changes nothing.", CallEdgesTest::callsThatThrowChangeNothing);
         Expect.end();
     }
@@ -309,6 +310,18 @@ public final class CallEdgesTest {
         m.send(0xC1);
         m.send(0x01, 1);
         m.dueRequests("no requests", 5);
+    }
+
+    private static void fullObjectsGoOn() {
+        Master m = Master.of(1, 3);
+        m.station.sort(true, 0, 1);
+        for (int i = 1; i <= 254; i++) {
+            Expect.due("two frames more", m.feed(Master.join(STATUS, STATUS)), 2);
+            Expect.due("an event more", m.station.analog(0, i), true);
+        }
+        Expect.due("good frames in 509 calls", m.station.count(1), 508);
+        Expect.due("no more than 4000 bytes", m.station.count(0), 4000);
+        Expect.due("the 512th call: the newest event", m.station.event(1, 0, 2), 254);
     }
 
     private static void callThatThrows(OutStation x) {

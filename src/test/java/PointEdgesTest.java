@@ -143,6 +143,22 @@ public final class PointEdgesTest {
             Expect.due("the newest", x.event(1, size - 1, 2), 1000);
             Expect.due("the oldest now", x.event(1, 0, 2), size == 1 ? 1000 : 2);
         }
+        OutStation x = newOne(3);
+        x.sort(false, 7, 1);
+        x.sort(true, 9, 1);
+        x.sort(false, 8, 1);
+        x.binary(7, true);
+        x.analog(9, -5);
+        x.binary(8, true);
+        x.analog(9, 6);
+        int[] sorts = {1, 0, 1};
+        int[] numbers = {9, 8, 9};
+        int[] values = {-5, 1, 6};
+        for (int k = 0; k < 3; k++) {
+            Expect.due("its sort moves with it", x.event(1, k, 0), sorts[k]);
+            Expect.due("its number, too", x.event(1, k, 1), numbers[k]);
+            Expect.due("its value, too", x.event(1, k, 2), values[k]);
+        }
     }
 
     private static void lostIsSetBeyondTheSize() {
